@@ -362,6 +362,16 @@ public final class FailureTest {
                 + " [0 state 2 margin 0 share 0 gain 0 junior false assessed 0 clients 0 won 0]"
                 + " [1 state 3 margin 0 share 0 gain 0 junior false assessed 0 clients 0 won 1]"
                 + " [2 state 0 margin 5 share 6 gain 12 junior true assessed 0 clients 14 won 0]");
+        DefaultFund first = Funds.withShares(5, 0, 0);
+        first.giveNotice(0);
+        first.giveNotice(2);
+        first.fail(1, 1);
+        Check.same("under notice while it is dealt with", first.state(0), DefaultFund.NOTICE);
+        first.bid(2, 0, 0);
+        first.close();
+        Check.same("the first leaves", first.state(0), DefaultFund.LEFT);
+        Check.same("with its share", first.share(0), 0);
+        Check.same("and the last", first.state(2), DefaultFund.LEFT);
     }
 
     private static void tenMembersFail() {

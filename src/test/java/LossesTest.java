@@ -11,6 +11,8 @@ public final class LossesTest {
         assessmentsByEarlierShares();
         assessmentsAddUp();
         boundsWhileParting();
+        tenMembersWhileParting();
+        manyRoundsForOne();
         gains();
         gainsSetInBetween();
         greatAmounts();
@@ -242,6 +244,48 @@ public final class LossesTest {
         // 697, 2, 3, 697 with bounds 500, 3, 5, 1000: 500, 2, 3, 697; the rest of 198 in rounds.
         assessed("many rounds", fund, 500, 3, 5, 892, 0);
         Check.same("all is borne", fund.uncovered(), 0);
+        fund = Funds.withShares(5, 3, 1000, 1000, 0);
+        fund.giveNotice(2);
+        lossOf(2008 + 1400, fund, 4);
+        assessed("the bound of the first", fund, 5, 3, 500, 892, 0);
+    }
+
+    /** One under notice leaves a great rest, and the others reach their bounds one behind the other. */
+    private static void tenMembersWhileParting() {
+        int[][] due = {
+            {2750, 10, 20, 24, 29, 34, 39, 44, 50},
+            {2850, 10, 20, 30, 40, 50, 60, 68, 72},
+            {2855, 10, 20, 30, 40, 50, 60, 70, 75},
+            {2859, 10, 20, 30, 40, 50, 60, 70, 79},
+            {2860, 10, 20, 30, 40, 50, 60, 70, 80},
+            {2861, 10, 20, 30, 40, 50, 60, 70, 80},
+        };
+        for (int[] row : due) {
+            DefaultFund fund = Funds.withShares(5000, 10, 20, 30, 40, 50, 60, 70, 80);
+            fund.giveNotice(0);
+            lossOf(5360 + row[0], fund, 8);
+            Check.same("half under notice", fund.assessed(0), 2500);
+            for (int i = 1; i < 9; i++) {
+                Check.same("parts of " + row[0] + ", assessed of " + i, fund.assessed(i), row[i]);
+            }
+            Check.same("all bounds reached", fund.uncovered(), row[0] > 2860 ? 1 : 0);
+            Check.same("the tenth bears nothing", fund.assessed(9), 0);
+        }
+    }
+
+    private static void manyRoundsForOne() {
+        DefaultFund fund = new DefaultFund();
+        fund.addMember(0, 0, 100);
+        fund.addMember(0, 30000, 0);
+        fund.addMember(0, 30000, 0);
+        for (int i = 0; i < 84; i++) {
+            fund.addClient(0, 1);
+        }
+        fund.giveNotice(1);
+        Check.same("lots", fund.fail(0, 20), 104);
+        Check.same("all is borne", fund.close(), 0);
+        // 44000 behind the shares: 22000 each, at most 15000 under notice: 7000 rounds for the other.
+        assessed("many rounds for one", fund, 0, 15000, 29000);
     }
 
     private static void gains() {

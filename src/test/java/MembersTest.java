@@ -295,6 +295,17 @@ public final class MembersTest {
         Check.same("ten great ones", great.size(), 2000000);
         Check.same("the first", great.share(0), 200000);
         Check.same("the last", great.share(9), 200000);
+        DefaultFund uneven = new DefaultFund();
+        uneven.addMember(1000000, 0, 0);
+        uneven.addMember(600000, 0, 0);
+        uneven.addMember(300001, 0, 0);
+        uneven.setTested(0, 1000000);
+        uneven.setTested(1, 999999);
+        Check.same("three uneven ones", uneven.size(), 1999999);
+        // Rounded down 1052630, 631578 and 315790; the rest of 1 goes to member 0.
+        Check.same("the greatest", uneven.share(0), 1052631);
+        Check.same("the middle", uneven.share(1), 631578);
+        Check.same("the least of three", uneven.share(2), 315790);
         DefaultFund two = new DefaultFund();
         two.addMember(1000000, 1000000, 0);
         two.addMember(0, 0, 0);
