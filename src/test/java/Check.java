@@ -31,7 +31,7 @@ final class Check {
     }
 
     /** That the call throws the very class: no class of the machine's own below it. */
-    private static void thrown(String what, Class<? extends RuntimeException> due, Call call) {
+    static void thrown(String what, Class<? extends RuntimeException> due, Call call) {
         String got = "nothing";
         try {
             call.run();

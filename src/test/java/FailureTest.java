@@ -19,6 +19,21 @@ public final class FailureTest {
         close();
         leaving();
         tenMembersFail();
+        clientsComeInOrderHoweverTheyCame();
+        clientsAddedInBetweenComeLast();
+        clientsNeedRoomForAllTheirLots();
+        clientsMovedBeforeTakeRoom();
+        clientsOfThoseThatLeave();
+        lastLotAndTheNext();
+        oneBidOfEachForEachLot();
+        pricesAtTheirBounds();
+        equalBids();
+        lossAtNone();
+        halfOfManyLots();
+        halfCountsClientsLots();
+        belowTheGreatestOfTheLot();
+        moreThanHalfOfItsOwnBids();
+        ranksOfFirstMember();
         Check.end();
     }
 
@@ -192,8 +207,8 @@ public final class FailureTest {
             Check.badArgument("price out of range, and not active", () -> fund.bid(0, 0, price));
         }
         fund.bid(2, 0, -1000);
-        Check.badState("twice", () -> fund.bid(2, 0, 1000));
         Check.badState("twice at the same price", () -> fund.bid(2, 0, -1000));
+        Check.badState("twice", () -> fund.bid(2, 0, 1000));
         Check.badArgument("twice, and out of range", () -> fund.bid(2, 0, 1001));
         Check.badState("failed before", () -> fund.bid(0, 0, 0));
         Check.badState("the failing one", () -> fund.bid(1, 0, 0));
@@ -386,5 +401,359 @@ public final class FailureTest {
         }
         Check.same("shares and assessments of the first, nothing behind it", fund.uncovered(),
                 10 * 20000 - shares - shares);
+    }
+
+    // "client by client, in the order in which they came to it, by being added or by being moved to it"
+    private static void clientsComeInOrderHoweverTheyCame() {
+        // Member 1 has its own 12, then 7 and 4 that were moved from member 0, then 2 added behind them;
+        // from no other order would member 2 take just as many into each of these rooms.
+        int[][] due = {{12, 13}, {19, 6}, {23, 2}, {25, 0}};
+        for (int[] row : due) {
+            DefaultFund fund = new DefaultFund();
+            fund.addMember(0, 0, 25);
+            fund.addMember(0, 0, 25);
+            fund.addClient(0, 7);
+            fund.addClient(1, 12);
+            fund.addClient(0, 4);
+            Check.same("all move", fund.fail(0, 1), 1);
+            fund.close();
+            fund.addClient(1, 2);
+            Check.same("all four", fund.clientLots(1), 25);
+            fund.addMember(0, 0, row[0]);
+            Check.same("room for the first " + row[0], fund.fail(1, 1), 1 + row[1]);
+            Check.same("moved", fund.clientLots(2), row[0]);
+        }
+        // 1, 3, 2, 4 in this order: by rising or falling lots other clients would fill the room of 5.
+        int[] rooms = {1, 3, 4, 5};
+        int[] fills = {1, 3, 4, 4};
+        for (int i = 0; i < rooms.length; i++) {
+            DefaultFund fund = new DefaultFund();
+            fund.addMember(0, 0, 20);
+            fund.addMember(0, 0, 20);
+            fund.addClient(1, 1);
+            fund.addClient(0, 3);
+            fund.fail(0, 1);
+            fund.close();
+            fund.addClient(1, 2);
+            fund.addClient(1, 4);
+            fund.addMember(0, 0, rooms[i]);
+            Check.same("those that fit into " + rooms[i], fund.fail(1, 1), 1 + 10 - fills[i]);
+            Check.same("a fill of " + rooms[i], fund.clientLots(2), fills[i]);
+        }
+    }
+
+    private static void clientsAddedInBetweenComeLast() {
+        DefaultFund fund = new DefaultFund();
+        fund.addMember(0, 0, 20);
+        fund.addMember(0, 0, 20);
+        fund.addClient(0, 4);
+        fund.fail(0, 1);
+        fund.addClient(1, 3);
+        fund.close();
+        fund.addMember(0, 0, 6);
+        fund.fail(1, 1);
+        Check.same("the moved one was first", fund.clientLots(2), 4);
+        // Moved twice: member 2's own 1, then 6 from member 0 by way of member 1.
+        fund = new DefaultFund();
+        fund.addMember(0, 0, 20);
+        fund.addMember(0, 0, 20);
+        fund.addMember(0, 0, 20);
+        fund.addClient(0, 6);
+        fund.addClient(1, 2);
+        fund.fail(0, 1);
+        fund.close();
+        fund.addClient(2, 1);
+        fund.fail(1, 1);
+        fund.close();
+        fund.addMember(0, 0, 6);
+        // 1 fits into 6, then 2, then not 6.
+        Check.same("closed", fund.fail(2, 1), 1 + 6);
+        Check.same("in the order of coming", fund.clientLots(3), 3);
+    }
+
+    // "to the active member with the lowest number that has room for all lots of the client"
+    private static void clientsNeedRoomForAllTheirLots() {
+        for (int room = 19; room <= 20; room++) {
+            DefaultFund fund = new DefaultFund();
+            fund.addMember(0, 0, room);
+            fund.addMember(0, 0, 20);
+            fund.addMember(0, 0, 20);
+            fund.addClient(2, 20);
+            Check.same("a place for 20", fund.fail(2, 1), 1);
+            Check.same("the first, with room for " + room, fund.clientLots(0), room == 20 ? 20 : 0);
+            Check.same("the next", fund.clientLots(1), room == 20 ? 0 : 20);
+        }
+        DefaultFund none = new DefaultFund();
+        none.addMember(0, 0, 0);
+        none.addMember(0, 0, 1);
+        none.addClient(1, 1);
+        Check.same("no room for one lot", none.fail(1, 1), 2);
+        Check.same("it is closed", none.clientLots(0), 0);
+        Check.same("and gone", none.clientLots(1), 0);
+        none.close();
+        Check.same("behind it too", none.clientLots(0) + none.clientLots(1), 0);
+    }
+
+    private static void clientsMovedBeforeTakeRoom() {
+        DefaultFund fund = new DefaultFund();
+        fund.addMember(0, 0, 10);
+        fund.addMember(0, 0, 20);
+        fund.addMember(0, 0, 9);
+        fund.addClient(0, 3);
+        for (int lots = 6; lots >= 2; lots--) {
+            fund.addClient(1, lots);
+        }
+        // Room of 7 and 9: 6 to member 0, 5 and 4 to member 2, then 3 and 2 nowhere.
+        Check.same("closed when all is full", fund.fail(1, 4), 4 + 3 + 2);
+        Check.same("beside its own", fund.clientLots(0), 9);
+        Check.same("filled", fund.clientLots(2), 9);
+        Check.same("one lot of room is left", fund.addClient(0, 1), 0);
+        Check.badState("none is left", () -> fund.addClient(2, 1));
+    }
+
+    // "those that have given notice have left, with their ... clients, so that they have none here"
+    private static void clientsOfThoseThatLeave() {
+        DefaultFund fund = new DefaultFund();
+        fund.addMember(0, 0, 20);
+        fund.addMember(0, 0, 20);
+        fund.addMember(0, 0, 100);
+        fund.addClient(0, 3);
+        fund.addClient(1, 4);
+        fund.giveNotice(1);
+        Check.same("moved to one under notice", fund.fail(0, 1), 1);
+        Check.same("till the end", fund.clientLots(1), 7);
+        fund.close();
+        Check.same("they leave with it", fund.clientLots(1), 0);
+        Check.same("and move to nobody", fund.clientLots(2), 0);
+        Check.same("nor are they auctioned", fund.fail(2, 1), 1);
+    }
+
+    // "lot: from 0"; "no such lot"
+    private static void lastLotAndTheNext() {
+        for (int lots = 20; lots >= 1; lots--) {
+            DefaultFund fund = Funds.withShares(0, 0, 0);
+            int last = lots - 1;
+            fund.fail(0, lots);
+            Check.noSuch("lot of " + lots, () -> fund.bid(1, last + 1, 0));
+            Check.noSuch("lot below 0", () -> fund.bid(1, -1, 0));
+            fund.bid(1, last, 1000);
+            fund.close();
+            Check.same("the last of " + lots, fund.won(1), 1);
+        }
+        DefaultFund fund = Funds.withShares(0, 0, 0, 0);
+        fund.fail(0, 20);
+        fund.bid(2, 19, 0);
+        fund.bid(2, 1, 0);
+        fund.close();
+        fund.fail(1, 1);
+        Check.noSuch("a lot of the auction before", () -> fund.bid(2, 1, 0));
+        Check.noSuch("its last", () -> fund.bid(2, 19, 0));
+        fund.bid(2, 0, 0);
+        fund.close();
+        fund.fail(2, 2);
+        fund.bid(3, 1, 0);
+        Check.noSuch("one more than two", () -> fund.bid(3, 2, 0));
+        fund.close();
+        Check.same("won in the greater again", fund.won(3), 1);
+    }
+
+    // "for each lot each active member can bid once"
+    private static void oneBidOfEachForEachLot() {
+        DefaultFund fund = Funds.full();
+        fund.giveNotice(9);
+        fund.fail(0, 3);
+        for (int member = 1; member < 10; member++) {
+            int m = member;
+            for (int lot = 0; lot < 3; lot++) {
+                int of = lot;
+                fund.bid(m, of, m);
+                Check.badState("a second bid of " + m, () -> fund.bid(m, of, m + 1));
+            }
+        }
+        fund.close();
+        Check.same("the greatest of nine", fund.won(9), 3);
+        fund.fail(1, 3);
+        fund.bid(2, 0, 1);
+        Check.badState("once in each auction", () -> fund.bid(2, 0, 2));
+        fund.close();
+        Check.same("won by the new bid", fund.won(2), 1);
+    }
+
+    // "a price from -1000 to 1000 (below 0 it is paid for taking the lot)"
+    private static void pricesAtTheirBounds() {
+        int[] prices = {-1000, -999, -1, 0, 1, 999, 1000};
+        for (int price : prices) {
+            DefaultFund fund = Funds.withShares(0, 0);
+            fund.fail(0, 2);
+            fund.bid(1, 0, price);
+            fund.close();
+            Check.same("won at " + price, fund.won(1), 1);
+            Check.same("loss at " + price, fund.loss(), 1000 - price);
+            Check.same("nothing is paid to the house", fund.capital(), 0);
+        }
+        DefaultFund fund = Funds.withShares(0, 0, 0);
+        fund.fail(0, 1);
+        Check.badArgument("just below", () -> fund.bid(1, 0, -1001));
+        Check.badArgument("just above", () -> fund.bid(1, 0, 1001));
+        fund.bid(1, 0, -1000);
+        fund.bid(2, 0, -999);
+        fund.close();
+        Check.same("-999 is above -1000", fund.won(2), 1);
+    }
+
+    // "each lot goes to the greatest bid, of several to the member with the lowest number"
+    private static void equalBids() {
+        int[][] orders = {{0, 2, 4}, {4, 2, 0}, {2, 0, 4}, {2, 4, 0}, {4, 0, 2}, {0, 4, 2}};
+        for (int[] order : orders) {
+            DefaultFund fund = Funds.withShares(0, 0, 0, 0, 0);
+            fund.fail(1, 3);
+            for (int member : order) {
+                fund.bid(member, 0, -1000);
+                fund.bid(member, 1, member == 0 ? 6 : 7);
+                fund.bid(member, 2, member == 4 ? 8 : 7);
+            }
+            fund.close();
+            Check.same("three equal ones", fund.won(0), 1);
+            Check.same("two equal ones", fund.won(2), 1);
+            Check.same("the greatest", fund.won(4), 1);
+            Check.same("each lot once", fund.loss(), 1000 - 7 - 8);
+        }
+    }
+
+    // "if it is below 0 it is 0"
+    private static void lossAtNone() {
+        int[][] due = {{-1, 1}, {0, 0}, {1, 0}, {1000, 0}};
+        for (int[] row : due) {
+            DefaultFund fund = Funds.withShares(0, 50);
+            fund.fail(0, 2);
+            fund.bid(1, 0, row[0]);
+            fund.bid(1, 1, 0);
+            Check.same("uncovered at " + row[0], fund.close(), 0);
+            Check.same("loss at " + row[0], fund.loss(), row[1]);
+            Check.same("share at " + row[0], fund.share(1), 50 - row[1]);
+            Check.same("all uncovered", fund.uncovered(), 0);
+        }
+    }
+
+    // "A member that bid for fewer than half of the lots"
+    private static void halfOfManyLots() {
+        for (int lots = 19; lots <= 20; lots++) {
+            for (int bids = 9; bids <= 10; bids++) {
+                DefaultFund fund = Funds.withShares(0, 0);
+                fund.fail(0, lots);
+                Funds.bidForAll(fund, 1, bids, -3);
+                fund.close();
+                Check.same(bids + " of " + lots, fund.isJunior(1), bids == 9);
+            }
+        }
+        for (int bids = 59; bids <= 60; bids++) {
+            DefaultFund fund = Funds.withShares(0);
+            for (int i = 0; i < 5; i++) {
+                fund.addClient(0, 20);
+            }
+            fund.addMember(0, 0, 0);
+            Check.same("all lots", fund.fail(0, 20), 120);
+            for (int lot = 120 - bids; lot < 120; lot++) {
+                fund.bid(1, lot, -3);
+            }
+            fund.close();
+            Check.same(bids + " of 120", fund.isJunior(1), bids == 59);
+        }
+    }
+
+    // "their lots are added to the book": half is half of all lots that are auctioned
+    private static void halfCountsClientsLots() {
+        for (int bids = 1; bids <= 2; bids++) {
+            DefaultFund fund = new DefaultFund();
+            fund.addMember(0, 0, 3);
+            fund.addMember(0, 0, 2);
+            fund.addClient(0, 3);
+            Check.same("a book of 1 and a client of 3", fund.fail(0, 1), 4);
+            Funds.bidForAll(fund, 1, bids, 0);
+            fund.close();
+            Check.same(bids + " of 4", fund.isJunior(1), bids == 1);
+            Check.same("the client's lots cost as well", fund.loss(), 1000 * (4 - bids));
+        }
+        DefaultFund fund = new DefaultFund();
+        fund.addMember(0, 0, 3);
+        fund.addMember(0, 0, 3);
+        fund.addClient(0, 3);
+        Check.same("a client that moves is not auctioned", fund.fail(0, 1), 1);
+        fund.bid(1, 0, 0);
+        fund.close();
+        Check.same("one of one", fund.isJunior(1), false);
+    }
+
+    // "more than 100 below the greatest bid of the lot"
+    private static void belowTheGreatestOfTheLot() {
+        int[][] greatest = {{1000, 0, -899}, {-899, 1000, 0}, {-1, 50, 101}};
+        for (int[] prices : greatest) {
+            for (int below = 100; below <= 101; below++) {
+                DefaultFund fund = Funds.withShares(0, 0, 0, 0);
+                fund.fail(1, 3);
+                for (int lot = 0; lot < 3; lot++) {
+                    fund.bid(0, lot, prices[lot] - below);
+                    fund.bid(2, lot, prices[lot]);
+                    fund.bid(3, lot, Math.max(-1000, prices[lot] - 500));
+                }
+                fund.close();
+                Check.same("by " + below + " in each lot", fund.isJunior(0), below == 101);
+                Check.same("the greatest of each lot", fund.isJunior(2), false);
+            }
+        }
+        DefaultFund fund = Funds.withShares(0, 0, 0);
+        fund.fail(0, 1);
+        fund.bid(1, 0, -1000);
+        fund.bid(2, 0, 1000);
+        fund.close();
+        Check.same("the widest", fund.isJunior(1), true);
+        Check.same("its winner", fund.isJunior(2), false);
+        fund = Funds.withShares(0, 0, 0);
+        fund.fail(0, 1);
+        fund.bid(1, 0, -1000);
+        fund.close();
+        Check.same("alone it is the greatest", fund.isJunior(1), false);
+    }
+
+    // "for more than half of the lots it bid for"
+    private static void moreThanHalfOfItsOwnBids() {
+        for (int low = 5; low <= 6; low++) {
+            for (int made = 10; made <= 11; made++) {
+                DefaultFund fund = Funds.withShares(0, 0, 0);
+                fund.fail(0, 20);
+                Funds.bidForAll(fund, 1, 20, 200);
+                for (int lot = 0; lot < made; lot++) {
+                    fund.bid(2, lot, lot >= made - low ? 99 : 300);
+                }
+                fund.close();
+                Check.same(low + " low ones of " + made, fund.isJunior(2), low == 6);
+                Check.same("the other, 100 below at most", fund.isJunior(1), false);
+            }
+        }
+        // 101 below and 99 below make no two of 100: each lot counts by itself.
+        DefaultFund fund = Funds.withShares(0, 0, 0);
+        fund.fail(0, 2);
+        Funds.bidForAll(fund, 1, 2, 0);
+        fund.bid(2, 0, -1000);
+        fund.bid(2, 1, -100);
+        fund.close();
+        Check.same("one of two, however low", fund.isJunior(2), false);
+    }
+
+    // "all others active become not junior"
+    private static void ranksOfFirstMember() {
+        DefaultFund fund = Funds.withShares(0, 0, 0);
+        fund.fail(1, 1);
+        fund.close();
+        Check.same("the first", fund.isJunior(0), true);
+        Check.same("the last", fund.isJunior(2), true);
+        fund.giveNotice(2);
+        int failed = fund.addMember(0, 0, 0);
+        fund.fail(failed, 1);
+        fund.bid(0, 0, 0);
+        fund.bid(2, 0, -100);
+        fund.close();
+        Check.same("the first again", fund.isJunior(0), false);
+        Check.same("one that leaves is ranked before", fund.isJunior(2), false);
     }
 }

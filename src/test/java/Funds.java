@@ -20,15 +20,16 @@ final class Funds {
         return withShares(0, 1, 2, 3, 4, 5, 6, 7, 8, 9);
     }
 
-    /** All answers of the calls that only ask, so that two moments can be compared. */
+    /** All answers of the calls that only ask, 5 and 8 for each member: two moments can be compared. */
     static String asked(DefaultFund fund) {
         StringBuilder text = new StringBuilder();
-        text.append("members ").append(fund.members())
+        int members = fund.members();
+        text.append("members ").append(members)
                 .append(" capital ").append(fund.capital())
                 .append(" loss ").append(fund.loss())
                 .append(" uncovered ").append(fund.uncovered())
                 .append(" failing ").append(fund.failing());
-        for (int i = 0; i < fund.members(); i++) {
+        for (int i = 0; i < members; i++) {
             text.append(" [").append(i)
                     .append(" state ").append(fund.state(i))
                     .append(" margin ").append(fund.margin(i))

@@ -17,6 +17,14 @@ public final class LossesTest {
         gainsSetInBetween();
         greatAmounts();
         failedOnesBearNothing();
+        ownFundsOfTheFailed();
+        sharesOfThoseUnderNotice();
+        capOfEachFailure();
+        halfOfSmallShares();
+        assessedWhateverTheRank();
+        sharesWhenTheMemberFailed();
+        gainsAboveNone();
+        losersThatHaveGone();
         Check.end();
     }
 
@@ -361,5 +369,143 @@ public final class LossesTest {
         fund.fail(1, 1);
         Check.same("own share, one share, one assessment", fund.close(), 1000 - 10 - 10 - 10);
         assessed("the failed are not assessed", fund, 0, 0, 10);
+    }
+
+    // "1. the margin of the failed member, 2. its share": whichever of them it has
+    private static void ownFundsOfTheFailed() {
+        int[][] due = {{0, 0, 99}, {1, 0, 98}, {0, 1, 98}, {99, 0, 0}, {0, 99, 0}, {98, 0, 1}, {49, 49, 1},
+            {49, 50, 0}, {50, 50, 0}, {1000000, 0, 0}, {0, 1000000, 0}, {1000000, 1000000, 0}};
+        for (int[] row : due) {
+            DefaultFund fund = new DefaultFund();
+            fund.addMember(row[0], row[1], 0);
+            fund.addMember(500, 0, 0);
+            fund.setCapital(99);
+            fund.fail(0, 1);
+            fund.bid(1, 0, -99);
+            fund.close();
+            Check.same("the house pays behind " + row[0] + " and " + row[1], fund.capital(), 99 - row[2]);
+            Check.same("nothing is left of the margin", fund.margin(0), 0);
+            Check.same("nor of the share", fund.share(0), 0);
+            Check.same("no margin of another", fund.margin(1), 500);
+        }
+    }
+
+    // "4. the shares of active members": those under notice bear with the whole share
+    private static void sharesOfThoseUnderNotice() {
+        DefaultFund fund = Funds.withShares(10, 10, 0);
+        fund.giveNotice(0);
+        fund.fail(2, 1);
+        fund.bid(0, 0, -15);
+        fund.close();
+        // 10 of member 1, that is junior, and 5 of member 0, that leaves with the rest.
+        shares("one under notice bid", fund, 0, 0);
+        assessed("no share is spared", fund, 0, 0);
+        fund = Funds.withShares(10, 10, 0);
+        fund.giveNotice(0);
+        fund.fail(2, 1);
+        fund.bid(1, 0, -15);
+        fund.close();
+        shares("one under notice is junior", fund, 0, 5);
+        fund = Funds.withShares(10, 10, 0);
+        fund.giveNotice(0);
+        lossOf(14, fund, 2);
+        shares("parted with one under notice", fund, 0, 3);
+    }
+
+    // "each bounded by that number": a new bound in each failure, of all assessments no bound
+    private static void capOfEachFailure() {
+        DefaultFund fund = new DefaultFund();
+        fund.addMember(1, 0, 0);
+        fund.setTested(0, 10);
+        for (int failure = 1; failure <= 9; failure++) {
+            fund.size();
+            Check.same("sized to 10 again", fund.share(0), 10);
+            lossOf(21, fund, 0);
+            Check.same("10 more", fund.assessed(0), 10 * failure);
+            Check.same("and no more", fund.uncovered(), failure);
+        }
+    }
+
+    // "for one that has given notice, by half of it, rounded down"
+    private static void halfOfSmallShares() {
+        for (int share = 0; share <= 7; share++) {
+            DefaultFund fund = Funds.withShares(share, 0);
+            fund.giveNotice(0);
+            lossOf(2 * share, fund, 1);
+            Check.same("half of " + share, fund.assessed(0), share / 2);
+            Check.same("beyond it", fund.uncovered(), share - share / 2);
+            fund = Funds.withShares(share, 0);
+            lossOf(2 * share, fund, 1);
+            Check.same("the whole of " + share, fund.assessed(0), share);
+            Check.same("nothing beyond it", fund.uncovered(), 0);
+        }
+    }
+
+    // "6. assessments of active members": of juniors and others at once
+    private static void assessedWhateverTheRank() {
+        for (int bidder = 0; bidder < 3; bidder++) {
+            DefaultFund fund = Funds.withShares(6, 3, 3, 0);
+            fund.giveNotice(1);
+            fund.fail(3, 1);
+            fund.bid(bidder, 0, -(12 + 4));
+            fund.close();
+            Check.same("only the bidder is not junior", fund.isJunior(bidder), false);
+            assessed("bidder " + bidder, fund, 2, 1, 1, 0);
+        }
+    }
+
+    // "parted by what their shares were when the member failed"
+    private static void sharesWhenTheMemberFailed() {
+        DefaultFund fund = new DefaultFund();
+        fund.addMember(1, 8, 0);
+        fund.addMember(3, 8, 0);
+        fund.setTested(0, 32);
+        fund.size();
+        // Sized: 8 and 24. The loss takes them, and 4 of the assessments by 8 and 24.
+        lossOf(32 + 4, fund, 0);
+        assessed("as they were sized", fund, 1, 3);
+        // Nothing is left of the shares, so that nobody is assessed in the next failure.
+        lossOf(5, fund, 0);
+        assessed("by shares of 0", fund, 1, 3);
+        Check.same("it is uncovered", fund.uncovered(), 5);
+    }
+
+    // "7. gains of active members above 0, parted by gains, each bounded by its gain"
+    private static void gainsAboveNone() {
+        int[][] due = {{0, 0, 5, 1, 3}, {1, 0, 4, 1, 3}, {2, 0, 3, 1, 3}, {3, 0, 3, 1, 2}, {8, 0, 0, 0, 1},
+            {9, 0, 0, 0, 0}};
+        for (int[] row : due) {
+            DefaultFund fund = Funds.withShares(0, 0, 0, 0);
+            fund.setGain(1, 5);
+            fund.setGain(2, 1);
+            fund.setGain(3, 3);
+            lossOf(row[0], fund, 0);
+            for (int i = 0; i < 4; i++) {
+                Check.same("gain of " + i + " by " + row[0], fund.gain(i), row[i + 1]);
+            }
+            Check.same("all is borne", fund.uncovered(), 0);
+        }
+        DefaultFund fund = Funds.withShares(0, 0);
+        fund.setGain(0, 1000000);
+        fund.fail(1, 1);
+        fund.setGain(0, 0);
+        Check.same("a gain set to 0 in between", fund.close(), 1000);
+    }
+
+    // "the failed member has nothing any more, and those that have given notice have left"
+    private static void losersThatHaveGone() {
+        DefaultFund fund = Funds.withShares(40, 50, 60, 0);
+        fund.setGain(0, 41);
+        fund.setGain(1, 51);
+        fund.giveNotice(1);
+        fund.fail(0, 1);
+        fund.bid(3, 0, 0);
+        fund.close();
+        Check.same("no loss", fund.loss(), 0);
+        shares("but gone", fund, 0, 0, 60, 0);
+        Check.same("with its gain", fund.gain(0), 0);
+        Check.same("and with its gain", fund.gain(1), 0);
+        Check.same("only those that stay bear", lossOf(121, fund, 3).uncovered(), 1);
+        assessed("nobody that has gone", fund, 0, 0, 60, 0);
     }
 }

@@ -16,6 +16,12 @@ public final class MembersTest {
         sizeOfActiveAlone();
         sizeAtTheEdges();
         sizeWhileAFailure();
+        roomOfNoneAndOfOne();
+        sizedOnlyWhenAsked();
+        sharesBecomeTheirPartsIfMore();
+        restOfSizing();
+        twoGreatestOfMany();
+        lastCallPromised();
         Check.end();
     }
 
@@ -326,5 +332,137 @@ public final class MembersTest {
         fund.bid(1, 0, 0);
         fund.close();
         Check.same("behind it", fund.size(), 50);
+    }
+
+    // "room, 0 to 100: for how many lots of clients it has room"
+    private static void roomOfNoneAndOfOne() {
+        DefaultFund fund = new DefaultFund();
+        fund.addMember(0, 0, 0);
+        fund.addMember(0, 0, 1);
+        fund.addMember(0, 0, 99);
+        fund.addMember(0, 0, 100);
+        Check.badState("no room at all", () -> fund.addClient(0, 1));
+        Check.badState("room for one, not for two", () -> fund.addClient(1, 2));
+        Check.same("room for one", fund.addClient(1, 1), 0);
+        Check.badState("and no more", () -> fund.addClient(1, 1));
+        for (int member = 2; member < 4; member++) {
+            for (int i = 0; i < 4; i++) {
+                fund.addClient(member, 20);
+            }
+        }
+        Check.badState("room for 99", () -> fund.addClient(2, 20));
+        Check.same("19 fit", fund.addClient(2, 19), 0);
+        Check.same("room for 100", fund.addClient(3, 20), 0);
+        Check.same("all its lots", fund.clientLots(3), 100);
+    }
+
+    // "The fund is sized when that is asked for"
+    private static void sizedOnlyWhenAsked() {
+        DefaultFund fund = new DefaultFund();
+        for (int i = 0; i < 5; i++) {
+            fund.addMember(10, 1, 20);
+            fund.setTested(i, 100 + i);
+        }
+        fund.setCapital(7);
+        fund.setGain(1, 7);
+        fund.addClient(0, 5);
+        fund.giveNotice(4);
+        sharesAre("nobody asked", fund, 1, 1, 1, 1, 1);
+        fund.fail(0, 1);
+        fund.bid(1, 0, 0);
+        sharesAre("a failure", fund, 1, 1, 1, 1, 1);
+        fund.close();
+        sharesAre("behind the failure", fund, 0, 1, 1, 1, 0);
+        Check.same("asked for", fund.size(), 102 + 103 - 3);
+        // 205 by three equal margins: 68 each, and the rest of 1 to member 1.
+        sharesAre("sized", fund, 0, 69, 68, 68, 0);
+    }
+
+    private static void sharesAre(String what, DefaultFund fund, int... due) {
+        for (int i = 0; i < due.length; i++) {
+            Check.same(what + ", share of " + i, fund.share(i), due[i]);
+        }
+    }
+
+    // "the share of each becomes its part, if that is more"
+    private static void sharesBecomeTheirPartsIfMore() {
+        for (int tested = 4; tested <= 6; tested++) {
+            DefaultFund fund = new DefaultFund();
+            fund.addMember(1, 5, 0);
+            fund.setTested(0, tested);
+            Check.same("a part of " + tested + " beside 5", fund.size(), tested > 5 ? 1 : 0);
+            Check.same("the share by " + tested, fund.share(0), Math.max(5, tested));
+        }
+        DefaultFund fund = new DefaultFund();
+        fund.addMember(10, 100, 0);
+        fund.addMember(10, 0, 0);
+        fund.setTested(0, 100);
+        // What the first has above its part of 50 is not set against the second's.
+        Check.same("each by itself", fund.size(), 50);
+        sharesAre("each by itself", fund, 100, 50);
+    }
+
+    // "then the rest, one coin each, to those with a weight above 0, by rising numbers"
+    private static void restOfSizing() {
+        DefaultFund fund = new DefaultFund();
+        fund.addMember(0, 0, 0);
+        fund.addMember(1, 0, 0);
+        fund.addMember(1000000, 0, 0);
+        fund.setTested(0, 1);
+        Check.same("one coin", fund.size(), 1);
+        sharesAre("to the first weight above 0", fund, 0, 1, 0);
+        fund.setTested(1, 2);
+        Check.same("three coins", fund.size(), 2);
+        // 3 by 1 and 1000000: 0 and 2, and the rest of 1 to member 1.
+        sharesAre("rounded down", fund, 0, 1, 2);
+        DefaultFund ten = new DefaultFund();
+        for (int i = 0; i < 10; i++) {
+            ten.addMember(1, 0, 0);
+        }
+        ten.setTested(3, 19);
+        Check.same("nineteen coins", ten.size(), 19);
+        sharesAre("one each, and to all but the last", ten, 2, 2, 2, 2, 2, 2, 2, 2, 2, 1);
+    }
+
+    // "what is needed is the sum of the two greatest tested losses"
+    private static void twoGreatestOfMany() {
+        for (int first = 0; first < 10; first++) {
+            for (int second = 0; second < 10; second++) {
+                DefaultFund fund = new DefaultFund();
+                for (int i = 0; i < 10; i++) {
+                    fund.addMember(1, 0, 0);
+                    fund.setTested(i, i == first ? 900 : i == second ? 800 : 799);
+                }
+                int due = first == second ? 900 + 799 : 900 + 800;
+                Check.same("greatest " + first + ", then " + second, fund.size(), due);
+            }
+        }
+        DefaultFund fund = new DefaultFund();
+        for (int i = 0; i < 3; i++) {
+            fund.addMember(1, 0, 0);
+            fund.setTested(i, 50);
+        }
+        fund.setTested(0, 0);
+        fund.setTested(1, 0);
+        Check.same("the second greatest is 0", fund.size(), 50);
+        fund.setTested(2, 0);
+        Check.same("nothing is needed", fund.size(), 0);
+    }
+
+    // "An object is used for at most 512 calls after it has been made"
+    private static void lastCallPromised() {
+        DefaultFund fund = new DefaultFund();
+        for (int call = 1; call <= 510; call++) {
+            fund.setCapital(call);
+        }
+        Check.same("call 511", fund.addMember(1, 2, 3), 0);
+        Check.same("call 512", fund.setCapital(5), 510);
+        DefaultFund failing = Funds.withShares(4, 5);
+        for (int call = 3; call <= 510; call++) {
+            failing.setGain(1, call);
+        }
+        Check.same("call 511", failing.fail(0, 1), 1);
+        // 4 and 5 of shares, 5 assessed, 510 of the gain.
+        Check.same("call 512", failing.close(), 1000 - 4 - 5 - 5 - 510);
     }
 }
